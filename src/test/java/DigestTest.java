@@ -22,11 +22,37 @@ public final class DigestTest {
         asked.seen(3, 0, 0);
         DUE.is("ask(2)", asked.ask(2), 6);
         check(asked);
+        nearOnesDiffer();
         seen.lose(0);
         long before = seen.digest();
         seen.sheet(0, 0, 4);
         DUE.is("sheets are no part of it", seen.digest(), before);
         DUE.end();
+    }
+
+    /** One by which an hour, a place or a number beside those of the digest would make another digest. */
+    private static void nearOnesDiffer() {
+        WoodliceSenate x = Told.of("012345678909", "gau;gld;gkd", Told.FROST, 6, 0, Told.FROST, 7, 0, Told.FROST, 19,
+                0, Told.PEPPER, 19, 10, Told.PEPPER, 9, 11, Told.PEPPER, 10, 11);
+        for (int near : new int[] {5, 7}) {
+            DUE.isTrue("damp(6) and " + near, x.damp(6, 9, 0) != x.damp(near, 9, 0));
+            DUE.isTrue("heads of 6 and " + near, x.damp(6, 7, 1) != x.damp(near, 7, 1));
+        }
+        DUE.isTrue("damp(19) and 18", x.damp(19, 9, 0) != x.damp(18, 9, 0));
+        DUE.isTrue("heads of 19 and 18", x.damp(19, 10, 1) != x.damp(18, 10, 1));
+        DUE.isTrue("at(0) and at(1)", x.at(0, 0, 0) != x.at(1, 0, 0));
+        DUE.isTrue("at(7) and at(6)", x.at(7, 0, 0) != x.at(6, 0, 0));
+        DUE.isTrue("at(7) and at(8)", x.at(7, 0, 0) != x.at(8, 0, 0));
+        DUE.isTrue("at(19) and at(18)", x.at(19, 2, 0) != x.at(18, 2, 0));
+        DUE.isTrue("dust(8) and dust(7)", x.dust(8, 1) != x.dust(7, 1));
+        DUE.isTrue("dust(8) and dust(9)", x.dust(8, 1) != x.dust(9, 1));
+        for (int what = 0; what < 2; what++) {
+            DUE.isTrue("chance(5, 9) and chance(5, 8)", x.chance(5, 9, what) != x.chance(5, 8, what));
+            DUE.isTrue("chance(5, 9) and chance(5, 10)", x.chance(5, 9, what) != x.chance(5, 10, what));
+        }
+        DUE.isTrue("chance(5, 9) and chance(4, 9)", x.chance(5, 9, 0) != x.chance(4, 9, 0));
+        DUE.isTrue("chance(5, 9) and chance(6, 9)", x.chance(5, 9, 0) != x.chance(6, 9, 0));
+        check(x);
     }
 
     private static void check(WoodliceSenate x) {
