@@ -75,16 +75,17 @@ final class Edges {
         for (int s = 0; s < 4; s++) {
             addSheet(all, x, s);
         }
-        while (x.count(1) > 0) {
+        for (int left = x.count(1); left > 0; left--) {
             all.add((long) x.back());
             all.add((long) x.carried());
         }
         all.add((long) x.forget());
         // What comes off a text at its end shows its bytes, of one with a fault, too.
         for (int text = 0; text < 2; text++) {
-            for (int left = x.count(2 + text); left > 0; left = x.undo(text)) {
+            for (int left = x.count(2 + text); left > 0; left--) {
                 all.add((long) x.fault(text));
                 all.add(text == 0 ? (long) x.stone(left - 1) : x.member(left / 4, 1));
+                all.add((long) x.undo(text));
             }
         }
         return all.stream().mapToLong(Long::longValue).toArray();
